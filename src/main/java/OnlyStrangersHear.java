@@ -703,7 +703,7 @@ public final class OnlyStrangersHear {
             for (int late = 0; late <= MOST_FIGURE; late++) {
                 int many = (int) (voices >> 4 * late) & 15;
                 int itsHour = (hour[b] + late) % DAY_HOURS;
-                if (many > most || many == most && many > 0 && itsHour < said) {
+                if (many > most || many == most && itsHour < said) {
                     most = many;
                     said = itsHour;
                 }

@@ -197,6 +197,7 @@ public final class PromisesTest {
         due("he comes back", tell(x, "g29;g20;"), 2);
         due("he is back", x.person(2, 3), 0);
         due("96 letters", tell(new OnlyStrangersHear(), "d01;".repeat(24)), 24);
+        due("8 beds told", of("e1;e8;").count(3), 8);
         OnlyStrangersHear full = of("pp000;pc111;pw222;pd333;pl444;po555;pp699;pc700;b001;b239;b041;b052;b063;b074;");
         for (int p = 0; p < 8; p++) {
             due("kind of " + p, full.person(p, 0), p % 6);
@@ -318,6 +319,7 @@ public final class PromisesTest {
         due("the least, though told later", of("b091;pl900;pp000;").bell(0, 3), 9);
         due("two of three are late", of("b091;pp000;pd000;pl100;").bell(0, 3), 10);
         due("nobody", of("b091;pc000;").bell(0, 3), -9);
+        due("one who is nine late", of("b091;pl900;").bell(0, 3), 18);
         due("nobody hears", of("b091;pc000;").bell(0, 2), 0);
         due("one away", of("b091;pp000;g01;").bell(0, 2), 0);
         due("an old one away", of("b041;po000;g01;").bell(0, 2), 0);
@@ -448,6 +450,9 @@ public final class PromisesTest {
         due("personThen(0, 0, 0)", x.personThen(0, 0, 0), 5);
         due("personThen(0, 99, 0)", x.personThen(0, 99, 0), 99);
         due("personThen(3, 10, 0)", x.personThen(3, 10, 0), 22);
+        x.goes(0, 1);
+        due("back behind a night, slept", x.personThen(0, 2, 0), 4);
+        due("back behind a night", x.personThen(0, 2, 1), 0);
         x.goes(0, 3);
         int[] slept = {5, 3, 1, 0, 1, 2};
         int[] away = {3, 2, 1, 0, 0, 0};
@@ -521,6 +526,8 @@ public final class PromisesTest {
         due("rings(0, 40, 0)", x.rings(0, 40, 0), 40);
         due("rings(0, 40, 1)", x.rings(0, 40, 1), 0);
         due("rings(2, 40, 1)", x.rings(2, 40, 1), 12);
+        due("rings(0, 40, 1) for nobody", of("b091;").rings(0, 40, 1), 40);
+        due("rings(0, 1, 1) for nobody", of("b091;").rings(0, 1, 1), 1);
         refused(of(TOWN), "rings(3, 0, 2)", o -> o.rings(3, 0, 2), -1);
         refused(of(TOWN), "rings(0, 0, 2)", o -> o.rings(0, 0, 2), -4);
         refused(of(TOWN), "rings(0, 41, 2)", o -> o.rings(0, 41, 2), -6);
@@ -536,6 +543,8 @@ public final class PromisesTest {
         due("send no liar if his hour is less", of("b201;pp000;pl500;pl500;").send(0, 3, 5), -9);
         due("send by days it rings alone", of("b095;pp008;").send(0, 1, 4), -9);
         due("send, too late", of("b092;pp008;").send(0, 3, 2), -9);
+        due("send, another bell counts not", of("b092;b043;pp008;").send(0, 3, 3), -9);
+        due("send, for the other bell", of("b092;b043;pp008;").send(1, 3, 3), 0);
         due("send the better of two", of("b091;pp012;pp008;").send(0, 2, 8), 1);
         refused(of(TOWN), "send(3, 0, 41)", o -> o.send(3, 0, 41), -1);
         refused(of(TOWN), "send(0, 0, 41)", o -> o.send(0, 0, 41), -4);
@@ -554,6 +563,8 @@ public final class PromisesTest {
         due("nightsFor of one who hears on", of("b091;pp000;").nightsFor(0, 5), -9);
         due("nightsFor without bells", of("pp008;").nightsFor(0, 40), -9);
         due("nightsFor by bells together", of("b092;b103;pp008;").nightsFor(0, 3), 1);
+        due("nightsFor, nine", of("b091;pp026;").nightsFor(0, 9), 9);
+        due("nightsFor, nine were too many", of("b091;pp026;").nightsFor(0, 8), -9);
         refused(of("b091;pp008;"), "nightsFor(1, 0)", o -> o.nightsFor(1, 0), -1);
         refused(of("b091;pp008;"), "nightsFor(0, 0)", o -> o.nightsFor(0, 0), -4);
         refused(of("b091;pp008;"), "nightsFor(0, 41)", o -> o.nightsFor(0, 41), -6);
@@ -582,6 +593,7 @@ public final class PromisesTest {
         due("ask(1)", x.ask(1), 0);
         due("ask, of several the least", of("b091;pc000;pp003;pp003;").ask(0), 1);
         due("ask, a later one longer", of("b091;pp003;pp002;").ask(0), 1);
+        due("ask, a later one by a day", of("b091;pp002;pp001;").ask(0), 1);
         due("ask a liar who tells no lie", of("b091;pl000;").ask(0), 0);
         due("ask no liar", of("b091;pl100;pd000;").ask(0), -9);
         due("ask no dane though he hears longer", of("b091;pd900;pp008;").ask(0), 1);
@@ -594,6 +606,7 @@ public final class PromisesTest {
     private static void leave() {
         due("leave() if all is right", of(TOWN).leave(), -9);
         due("leave() the dane", of("b231;pp000;pd000;").leave(), 1);
+        due("leave() the dane who came first", of("b231;pd000;pp000;").leave(), 0);
         due("leave() the least of two", of("b231;pp000;pp000;pd000;pd000;").leave(), 2);
         due("leave() nobody if it helps not", of("b231;pp000;pd000;pd000;").leave(), -9);
         due("leave() without bells", of("pp000;").leave(), -9);
@@ -615,6 +628,7 @@ public final class PromisesTest {
         due("right(0), none rings today", of("b239;pp000;d01;").right(0), 1);
         due("right(2), of several the least", of("b091;pc000;pp003;pp003;").right(2), 1);
         due("right(2), the later", of("b091;pp003;pp002;").right(2), 1);
+        due("right(2), the later by a day", of("b091;pp002;pp001;").right(2), 1);
         due("right(2), nobody", of("b091;pc000;").right(2), -9);
         due("right(2), never behind late", of("b041;pd900;po000;").right(2), 1);
         refused(of(TOWN), "right(3)", o -> o.right(3), -2);
@@ -644,6 +658,10 @@ public final class PromisesTest {
         due("agreed(0) of deaf ones", of("b091;pc000;po000;").agreed(0), 0);
         due("agreed(1) of deaf ones", of("b091;pc000;po000;").agreed(1), 0);
         due("agreed(1) of all eight", of("b041;" + "po000;".repeat(8)).agreed(1), 255);
+        OnlyStrangersHear y = of("b091;pp000;pl500;");
+        due("agreed(0) of two", y.agreed(0), 1);
+        y.turn(1, 0, 0);
+        due("agreed(0) of two, one turned", y.agreed(0), 2);
         refused(of(TOWN), "agreed(2)", o -> o.agreed(2), -2);
         refused(of(TOWN), "agreed(-1)", o -> o.agreed(-1), -2);
     }
@@ -659,6 +677,7 @@ public final class PromisesTest {
         x.days(20);
         due("hours(0) then", x.hours(0), 1 << 4);
         due("hours(1) then", x.hours(1), 6);
+        due("hours(0) by the first", of("b091;pp000;").hours(0), 1 << 9);
         refused(of(TOWN), "hours(2)", o -> o.hours(2), -2);
         refused(of(TOWN), "hours(-1)", o -> o.hours(-1), -2);
     }
@@ -708,6 +727,7 @@ public final class PromisesTest {
         due("cost, one night", of("b041;po099;").cost(0, 1, 0), 0);
         due("cost, nine nights", of("b041;po099;").cost(0, 9, 0), 8);
         due("cost, a bell he never hears", of("b041;b051;po099;").cost(0, 9, 1), 0);
+        due("cost, of 20 days alone", of("b091;pd000;").cost(0, 9, 0), 5);
         refusedCost(of(TOWN), "cost(6, 0, 0)", o -> o.cost(6, 0, 0), -1);
         refusedCost(of(TOWN), "cost(0, 0, 3)", o -> o.cost(0, 0, 3), -1);
         refusedCost(of(TOWN), "cost(0, 0, 0)", o -> o.cost(0, 0, 0), -4);
@@ -718,6 +738,8 @@ public final class PromisesTest {
         due("two, none has better", of("b091;pp000;pp000;").two(0, 1, 3), 0);
         due("two, the other lies", of("b201;pp000;pp000;").two(0, 1, 3), 1);
         due("two, the same the other way round", of("b201;pp000;pp000;").two(1, 0, 3), 1);
+        due("two, a lie of 5 past midnight", of("b191;pp000;pp000;").two(0, 1, 3), 1);
+        due("two, a lie of 5 before midnight", of("b181;pp000;pp000;").two(0, 1, 3), 0);
         due("two, both lies needed to do harm", of("b201;pp000;pp000;pl300;pl300;pl400;").two(3, 4, 2), 0);
         due("two, the first parts from his like", of("b091;pd000;pp020;pd000;pp000;").two(0, 1, 3), 10);
         due("two, both lie", of("b131;pd107;pc007;pd905;pw403;").two(0, 1, 2), 11);
@@ -760,6 +782,8 @@ public final class PromisesTest {
         due("mean(1)", x.mean(1), 6);
         due("mean(0) cut", of("pp004;pp002;pp000;pp000;").mean(0), 3);
         due("mean(1) cut", of("pp004;pp002;pp000;pp000;").mean(1), 2);
+        due("mean(0) of one", of("pp007;").mean(0), 7);
+        due("mean(1) of one", of("pp007;").mean(1), 1);
         due("mean(0) of none slept", of("pp000;pp000;").mean(0), 0);
         due("mean(1) of none slept", of("pp000;pp000;").mean(1), 1);
         due("mean(0) of nobody", new OnlyStrangersHear().mean(0), 0);
