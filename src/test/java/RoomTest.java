@@ -9,14 +9,17 @@ public final class RoomTest {
         String town = "b041;b122;b233;b091;b102;b111;pp005;pl703;po099;pw512;pd320;pc000;pp000;pp008;";
         allCalls(x, town);
         long made = 0;
+        long madeByReading = 0;
         for (int i = 0; i < 10; i++) {
             OnlyStrangersHear y = new OnlyStrangersHear();
             long start = allocated();
             allCalls(y, town);
-            made += allocated() - start;
+            long end = allocated();
+            made += end - start;
+            madeByReading += allocated() - end;
         }
-        // Reading the counter may itself make a little; one array a call would be far more.
-        check(made < 10 * 1024, made + " bytes made by ten runs of calls");
+        // The least object has 16 bytes: one in each run would make 160.
+        check(made - madeByReading < 160, made - madeByReading + " bytes made by ten runs of calls");
         System.out.println(wrong == 0 ? "calls make no objects" : "calls make objects");
         if (wrong != 0) {
             System.exit(1);
