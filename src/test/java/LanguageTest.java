@@ -8,7 +8,9 @@ import java.nio.file.Path;
 import java.util.ArrayList;
 import java.util.HashSet;
 import java.util.List;
+import java.util.Map;
 import java.util.Set;
+import java.util.TreeMap;
 import java.util.TreeSet;
 import java.util.regex.Matcher;
 import java.util.regex.Pattern;
@@ -57,6 +59,8 @@ public final class LanguageTest {
             public int count(int)
             """;
 
+    private static final int MOST_DEEP = 8;
+
     private static int wrong = 0;
 
     public static void main(String[] args) throws IOException {
@@ -89,8 +93,10 @@ public final class LanguageTest {
             }
         }
         check(seen.equals(due), "the methods of the face and no others: " + seen);
-        for (Method m : it.getDeclaredMethods()) {
-            check(!Modifier.isPrivate(m.getModifiers()) || !names.contains(m.getName()), "1: a private " + m.getName());
+        for (Class<?> c : allClasses()) {
+            for (Method m : c.getDeclaredMethods()) {
+                check(!Modifier.isPrivate(m.getModifiers()) || !names.contains(m.getName()), "1: a private " + m);
+            }
         }
         Constructor<?>[] constructors = it.getDeclaredConstructors();
         check(constructors.length == 1 && Modifier.isPublic(constructors[0].getModifiers())
@@ -100,11 +106,15 @@ public final class LanguageTest {
         }
     }
 
-    private static void classes() {
+    private static List<Class<?>> allClasses() {
         List<Class<?>> all = new ArrayList<>(List.of(OnlyStrangersHear.class.getDeclaredClasses()));
-        check(all.size() <= 12, "11: at most twelve classes");
         all.add(OnlyStrangersHear.class);
-        for (Class<?> c : all) {
+        return all;
+    }
+
+    private static void classes() {
+        check(allClasses().size() <= 12, "11: at most twelve classes");
+        for (Class<?> c : allClasses()) {
             check(c == OnlyStrangersHear.class || Modifier.isStatic(c.getModifiers()), "2: " + c + " is not static");
             int fields = 0;
             for (Field f : c.getDeclaredFields()) {
@@ -139,20 +149,42 @@ public final class LanguageTest {
         }
         library.removeAll(Set.of("Integer.bitCount", "Integer.MAX_VALUE", "Math.max", "Math.min", "System.arraycopy"));
         check(library.isEmpty(), "4: of the library " + library);
-        methodsAreShort(source);
+        methods(source);
     }
 
-    private static void methodsAreShort(String source) {
+    private static void methods(String source) {
         String[] lines = source.split("\n");
+        Pattern start = Pattern.compile("^( {4}| {8})(?:[\\w\\[\\]][\\w\\[\\] ]* )?(\\w+)\\(.*\\{$");
+        Map<String, String> bodies = new TreeMap<>();
         for (int i = 0; i < lines.length; i++) {
-            Matcher head = Pattern.compile("^( {4}| {8})[\\w\\[\\]][\\w\\[\\] ]*\\(.*\\{$").matcher(lines[i]);
+            Matcher head = start.matcher(lines[i]);
             if (head.matches()) {
                 int end = i;
                 while (end < lines.length && !lines[end].equals(head.group(1) + "}")) {
                     end++;
                 }
                 check(end - i < 60, "11: a long method in line " + (i + 1));
+                String body = String.join("\n", List.of(lines).subList(i + 1, end));
+                bodies.merge(head.group(2), body, String::concat);
             }
         }
+        for (String name : bodies.keySet()) {
+            check(depth(name, bodies, 0) <= MOST_DEEP, "11: calls go too deep from " + name);
+        }
+    }
+
+    /** Methods of one name count as one, so it is never told too low; what calls itself is told too deep. */
+    private static int depth(String name, Map<String, String> bodies, int above) {
+        if (above > MOST_DEEP) {
+            return above;
+        }
+        int deepest = above + 1;
+        Matcher call = Pattern.compile("\\b(\\w+)\\(").matcher(bodies.getOrDefault(name, ""));
+        while (call.find()) {
+            if (!Set.of("if", "for", "switch").contains(call.group(1))) {
+                deepest = Math.max(deepest, depth(call.group(1), bodies, above + 1));
+            }
+        }
+        return deepest;
     }
 }
